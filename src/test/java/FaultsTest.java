@@ -10,6 +10,8 @@ final class FaultsTest {
         promise07Refuses();
         promise08Hammer();
         promise08HammeredLines();
+        promise08FirstSpare();
+        promise08TurnsBits();
         promise08Refuses();
         promise09Run();
         promise09Refuses();
@@ -136,23 +138,36 @@ final class FaultsTest {
         CHECKS.due("which is the other spare", x.ofLine(0, 8, 4), 1);
         CHECKS.due("not the line of the other bank", x.ofLine(1, 0, 4), 0);
         CHECKS.due("the old line is not opened", x.ofLine(0, 0, 0), 0);
-        // 7, 162, 36, 153, then 134, 62, 93, 118 are drawn.
-        x.retire(64 + 3 * 8, true);
-        for (int bit = 0; bit < 13; bit++) {
-            x.stick(64 + 3 * 8 + 6, bit, false);
-        }
-        x.hammer(1, 4, 2);
-        CHECKS.due("stuck: bit 153 % 13", x.ofLine(1, 5, 4) + x.ofLine(1, 3, 4), drawnHits(x));
     }
 
-    /** Two bits were drawn for lines 3 and 5; what was drawn in the stuck word is not seen. */
-    private static int drawnHits(Scrubward x) {
-        int hits = 0;
-        for (int place = 0; place < 8; place++) {
-            hits += Integer.bitCount(x.ofWord(64 + 24 + place, 0));
-            hits += Integer.bitCount(x.ofWord(64 + 40 + place, 0));
-        }
-        return hits;
+    private static void promise08FirstSpare() {
+        Scrubward x = new Scrubward();
+        x.run(16, 2, 0, false, false);
+        x.spare(1, 3);
+        x.hammer(1, 3, 2);
+        CHECKS.due("two neighbours", x.board(16), 4);
+        CHECKS.due("the line 7", x.ofLine(1, 7, 4), 1);
+        CHECKS.due("the other spare", x.ofLine(1, 9, 4), 1);
+    }
+
+    /** The first drawn bit of a line is the bit 128 % 13 of the place 5. */
+    private static void promise08TurnsBits() {
+        Scrubward x = new Scrubward();
+        x.run(16, 2, 0, false, false);
+        x.ray(8 + 5, 1 << 11);
+        x.hammer(0, 0, 2);
+        CHECKS.due("a bit that is 1 is turned to 0", x.ofWord(8 + 5, 0), 0);
+        Scrubward y = new Scrubward();
+        y.run(16, 2, 0, false, false);
+        y.stick(8 + 5, 11, false);
+        y.hammer(0, 0, 2);
+        CHECKS.due("a stuck bit is not turned", y.ofWord(8 + 5, 0), 0);
+        CHECKS.due("though numbers are drawn for it", y.board(16), 2);
+        Scrubward z = new Scrubward();
+        z.code(4, 4);
+        z.run(16, 2, 0, false, false);
+        z.hammer(0, 0, 2);
+        CHECKS.due("of 8 bits it is the bit 128 % 8", z.ofWord(8 + 5, 0), 1);
     }
 
     private static void promise08Refuses() {
@@ -235,6 +250,8 @@ final class FaultsTest {
         CHECKS.due("what a leak does is not logged", x.board(9), 0);
         x.pass(39);
         CHECKS.due("what leaked is not brought back", x.ofWord(0, 0), 1791 - 7);
+        x.read(0);
+        x.read(8);
         x.weak(64, 0, 5);
         x.ray(64, 1);
         x.pass(1);

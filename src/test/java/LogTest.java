@@ -262,6 +262,13 @@ final class LogTest {
         CHECKS.due("digest()", y.digest(), found(y));
         y.code(10, 6);
         CHECKS.due("digest()", y.digest(), found(y));
+        Scrubward z = new Scrubward();
+        z.run(100, 20, 0, false, false);
+        z.ray(0, 1);
+        z.weak(0, 0, 21);
+        CHECKS.due("nothing leaks within 20: digest()", z.digest(), found(z));
+        z.weak(0, 0, 20);
+        CHECKS.due("one leaks within 20: digest()", z.digest(), found(z));
     }
 
     private static long found(Scrubward x) {

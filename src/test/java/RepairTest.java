@@ -37,7 +37,7 @@ final class RepairTest {
     private static void promise10WhatIsMoved() {
         Scrubward x = new Scrubward();
         for (int place = 0; place < 8; place++) {
-            x.write(8 + place, 17 * place);
+            x.write(8 + place, 17 * place + 1);
         }
         x.ray(9, 1);
         x.ray(10, 3);
@@ -46,20 +46,21 @@ final class RepairTest {
         x.ray(11, 3);
         x.ray(12, 3);
         x.retire(12, true);
-        x.stick(13, 0, false);
+        x.stick(13, 1, false);
         x.hammer(0, 1, 3);
         int entries = x.board(9);
         CHECKS.due("spare(0, 1)", x.spare(0, 1), 1);
-        CHECKS.due("clean", x.ofWord(8, 0), 0);
-        CHECKS.due("mended", x.ofWord(9, 0), x.encode(17));
-        CHECKS.due("bad as it is", x.ofWord(10, 0), x.encode(34) ^ 3);
+        CHECKS.due("clean", x.ofWord(8, 0), x.encode(1));
+        CHECKS.due("mended", x.ofWord(9, 0), x.encode(18));
+        CHECKS.due("bad as it is", x.ofWord(10, 0), x.encode(35) ^ 3);
         CHECKS.due("and poisoned", x.ofWord(10, 2), 1);
         CHECKS.due("poison stays", x.ofWord(11, 2), 1);
-        CHECKS.due("though it is clean", x.ofWord(11, 0), x.encode(51));
+        CHECKS.due("though it is clean", x.ofWord(11, 0), x.encode(52));
         CHECKS.due("also a retired one", x.ofWord(12, 2), 1);
         CHECKS.due("retired", x.ofWord(12, 3), 1);
-        CHECKS.due("bad as it is", x.ofWord(12, 0), x.encode(68) ^ 3);
-        CHECKS.due("stuck at 0 is mended", x.ofWord(13, 0), x.encode(85));
+        CHECKS.due("bad as it is", x.ofWord(12, 0), x.encode(69) ^ 3);
+        CHECKS.due("stuck at 0 is mended", x.ofWord(13, 0), x.encode(86));
+        CHECKS.due("the last place", x.ofWord(15, 0), x.encode(120));
         CHECKS.due("not poisoned", x.ofWord(9, 2), 0);
         CHECKS.due("nothing is logged", x.board(9), entries);
         CHECKS.due("nothing is opened", x.ofLine(0, 1, 0), 12);
@@ -206,6 +207,9 @@ final class RepairTest {
     private static void promise27WouldSpare() {
         Scrubward x = new Scrubward();
         CHECKS.due("all are clean: wouldSpare(0)", x.wouldSpare(0), -1);
+        x.ray(0, 1);
+        CHECKS.due("the first row: wouldSpare(0)", x.wouldSpare(0), 0);
+        x.ray(0, 1);
         x.ray(58, 1);
         CHECKS.due("wouldSpare(0)", x.wouldSpare(0), 7);
         CHECKS.due("wouldSpare(1)", x.wouldSpare(1), -1);

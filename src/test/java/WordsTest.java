@@ -63,6 +63,10 @@ final class WordsTest {
         CHECKS.due("count there", x.ofLine(1, 1, 0), 2);
         x.write(127, 1);
         CHECKS.due("here", x.ofWord(63, 0), 1793);
+        x.write(64, 3);
+        CHECKS.due("the first of bank 1: here", x.ofWord(0, 0), x.encode(3));
+        x.write(0, 7);
+        CHECKS.due("the first of bank 0: there", x.ofWord(64, 0), x.encode(7));
         x.retire(73, true);
         CHECKS.due("write(9, 0)", x.write(9, 0), 0);
         CHECKS.due("retired there", x.ofWord(73, 0), 4684);
