@@ -658,18 +658,13 @@ public final class Scrubward {
 
     private void scrubSteps() {
         for (int i = 0; i < steps; i++) {
-            if (!isPoisoned(patrolAt) && !isRetired(patrolAt)) {
-                scrub(patrolAt);
+            int address = patrolAt;
+            if (!isPoisoned(address) && !isRetired(address)) {
+                boolean isBad = dataAt(address) == NONE;
+                report(address, true);
+                poisoned.set(address, isBad ? 1 : 0);
             }
-            patrolAt = (patrolAt + 1) % ADDRESSES;
-        }
-    }
-
-    private void scrub(int address) {
-        int verdict = coder.verdictOf(wordAt(address));
-        report(address, true);
-        if (verdict == BAD) {
-            poisoned.set(address, 1);
+            patrolAt = (address + 1) % ADDRESSES;
         }
     }
 
