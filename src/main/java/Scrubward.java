@@ -1113,10 +1113,10 @@ public final class Scrubward {
         }
 
         private static int suspectOf(int kind, int bit, int row, int place) {
-            if (kind == CHIP) {
-                return bit;
+            if (kind == COLUMN) {
+                return place;
             }
-            return kind == ROW ? row : place;
+            return kind == ROW ? row : bit;
         }
 
         private int guiltyCell(int bank) {
