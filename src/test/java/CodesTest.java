@@ -25,11 +25,12 @@ final class CodesTest {
             CHECKS.due("new board(" + what + ")", x.board(what), board[what]);
         }
         for (int address = 0; address < 128; address++) {
+            Scrubward y = new Scrubward();
             for (int what = 0; what < 7; what++) {
                 int want = what == 4 ? address / 8 % 8 : 0;
-                CHECKS.due("new ofWord(" + address + ", " + what + ")", x.ofWord(address, what), want);
+                CHECKS.due("new ofWord(" + address + ", " + what + ")", y.ofWord(address, what), want);
             }
-            CHECKS.due("new wouldRead(" + address + ")", x.wouldRead(address), 0);
+            CHECKS.due("new wouldRead(" + address + ")", y.wouldRead(address), 0);
         }
         for (int bank = 0; bank < 2; bank++) {
             for (int line = 0; line < 10; line++) {
@@ -169,8 +170,9 @@ final class CodesTest {
         CHECKS.due("encode(128)", x.encode(128), 128 + 25 * 256);
         CHECKS.due("encode(255)", x.encode(255), 1791);
         for (int data = 0; data < 256; data++) {
-            CHECKS.due("syndrome of encode(" + data + ")", x.decode(x.encode(data), 0), 0);
-            CHECKS.due("data of encode(" + data + ")", x.encode(data) & 255, data);
+            Scrubward y = new Scrubward();
+            CHECKS.due("syndrome of encode(" + data + ")", y.decode(y.encode(data), 0), 0);
+            CHECKS.due("data of encode(" + data + ")", y.encode(data) & 255, data);
         }
         CHECKS.dueArgument(x, "encode(256)", () -> x.encode(256));
         for (int far : OUTSIDE) {
@@ -216,8 +218,8 @@ final class CodesTest {
         for (int[] pair : codes) {
             Scrubward x = new Scrubward();
             x.code(pair[0], pair[1]);
-            CHECKS.due("fooled(2)", x.fooled(2), foundMended(x, 2));
-            CHECKS.due("fooled(3)", x.fooled(3), foundMended(x, 3));
+            CHECKS.due("fooled(2)", x.fooled(2), foundMended(pair, 2));
+            CHECKS.due("fooled(3)", x.fooled(3), foundMended(pair, 3));
             CHECKS.due("fooled(2)", x.fooled(2), 0);
         }
         Scrubward x = new Scrubward();
@@ -230,11 +232,16 @@ final class CodesTest {
         }
     }
 
-    private static int foundMended(Scrubward x, int many) {
+    /** By an object for each last bit: none is used for more than 512 calls. */
+    private static int foundMended(int[] pair, int many) {
         int found = 0;
-        for (int word = 0; word < 1 << (x.board(1) + x.board(2)); word++) {
-            if (Integer.bitCount(word) == many && x.decode(word, 1) == 1) {
-                found++;
+        for (int last = 0; last < pair[0] + pair[1]; last++) {
+            Scrubward x = new Scrubward();
+            x.code(pair[0], pair[1]);
+            for (int word = 1 << last; word < 2 << last; word++) {
+                if (Integer.bitCount(word) == many && x.decode(word, 1) == 1) {
+                    found++;
+                }
             }
         }
         return found;

@@ -1,3 +1,5 @@
+import java.util.function.Supplier;
+
 /** Promises 13, 14, 21 to 23, 29 and 30: the log, the nurse, blame, the board, isSound and the digest. */
 final class LogTest {
     private static final Checks CHECKS = new Checks();
@@ -248,60 +250,96 @@ final class LogTest {
     }
 
     private static void promise30Digest() {
-        Scrubward x = new Scrubward();
-        CHECKS.due("digest()", x.digest(), found(x));
-        CHECKS.due("nothing is changed by it", x.digest(), found(x));
-        Scrubward y = busy();
-        CHECKS.due("digest()", y.digest(), found(y));
-        y.run(3, 2, 8, false, true);
-        y.write(40, 63);
-        y.weak(40, 0, 2);
-        y.spare(0, 5);
-        y.hammer(1, 1, 7);
-        y.pass(50);
-        CHECKS.due("digest()", y.digest(), found(y));
-        y.code(10, 6);
-        CHECKS.due("digest()", y.digest(), found(y));
-        Scrubward z = new Scrubward();
-        z.run(100, 20, 0, false, false);
-        z.ray(0, 1);
-        z.weak(0, 0, 21);
-        CHECKS.due("nothing leaks within 20: digest()", z.digest(), found(z));
-        z.weak(0, 0, 20);
-        CHECKS.due("one leaks within 20: digest()", z.digest(), found(z));
+        dueDigest("of a new object", Scrubward::new);
+        dueDigest("nothing is changed by it", LogTest::askedBefore);
+        dueDigest("of a busy one", LogTest::busy);
+        dueDigest("of a busier one", LogTest::busier);
+        dueDigest("with another code", LogTest::codedAnew);
+        dueDigest("nothing leaks within 20", () -> leaking(21));
+        dueDigest("one leaks within 20", () -> leaking(20));
     }
 
-    private static long found(Scrubward x) {
+    private static Scrubward askedBefore() {
+        Scrubward x = new Scrubward();
+        x.digest();
+        return x;
+    }
+
+    private static Scrubward busier() {
+        Scrubward x = busy();
+        x.run(3, 2, 8, false, true);
+        x.write(40, 63);
+        x.weak(40, 0, 2);
+        x.spare(0, 5);
+        x.hammer(1, 1, 7);
+        x.pass(50);
+        return x;
+    }
+
+    private static Scrubward codedAnew() {
+        Scrubward x = busier();
+        x.code(10, 6);
+        return x;
+    }
+
+    private static Scrubward leaking(int span) {
+        Scrubward x = new Scrubward();
+        x.run(100, 20, 0, false, false);
+        x.ray(0, 1);
+        x.weak(0, 0, span);
+        return x;
+    }
+
+    private static void dueDigest(String what, Supplier<Scrubward> made) {
         StringBuilder told = new StringBuilder();
+        tellBoard(told, made.get());
+        tellBanks(told, made.get());
+        tellWords(told, made.get());
+        tellEnd(told, made.get());
+        long d = 58281;
+        for (String value : told.toString().trim().split(" +")) {
+            d = d * 31 + Long.parseLong(value);
+        }
+        CHECKS.due(what + ": digest()", made.get().digest(), d);
+    }
+
+    private static void tellBoard(StringBuilder told, Scrubward x) {
         for (int what = 0; what <= 17; what++) {
-            told.append(x.board(what)).append(' ');
+            told.append(' ').append(x.board(what));
         }
-        for (int bit = 0; bit < x.board(1) + x.board(2); bit++) {
-            told.append(x.column(bit)).append(' ');
+        int bits = x.board(1) + x.board(2);
+        for (int bit = 0; bit < bits; bit++) {
+            told.append(' ').append(x.column(bit));
         }
-        told.append(x.fooled(2)).append(' ').append(x.fooled(3)).append(' ');
+        told.append(' ').append(x.fooled(2)).append(' ').append(x.fooled(3));
+    }
+
+    private static void tellBanks(StringBuilder told, Scrubward x) {
         for (int bank = 0; bank <= 1; bank++) {
-            told.append(x.blame(bank, false)).append(' ').append(x.blame(bank, true)).append(' ');
-            told.append(x.wouldSpare(bank)).append(' ').append((long) (64 * x.health(bank))).append(' ');
+            told.append(' ').append(x.blame(bank, false)).append(' ').append(x.blame(bank, true));
+            told.append(' ').append(x.wouldSpare(bank)).append(' ').append((long) (64 * x.health(bank)));
             for (int line = 0; line <= 9; line++) {
                 for (int what = 0; what <= 4; what++) {
-                    told.append(x.ofLine(bank, line, what)).append(' ');
+                    told.append(' ').append(x.ofLine(bank, line, what));
                 }
             }
         }
+    }
+
+    private static void tellWords(StringBuilder told, Scrubward x) {
         for (int address = 0; address <= 127; address++) {
-            told.append(x.ofWord(address, 0)).append(' ').append(x.ofWord(address, 2)).append(' ');
-            told.append(x.wouldRead(address)).append(' ');
+            told.append(' ').append(x.ofWord(address, 0)).append(' ').append(x.ofWord(address, 2));
+            told.append(' ').append(x.wouldRead(address));
         }
-        for (int entry = 0; entry < x.board(9); entry++) {
-            told.append(x.ofEntry(entry, 0)).append(' ').append(x.ofEntry(entry, 1)).append(' ');
-            told.append(x.ofEntry(entry, 2)).append(' ');
+    }
+
+    private static void tellEnd(StringBuilder told, Scrubward x) {
+        int entries = x.board(9);
+        for (int entry = 0; entry < entries; entry++) {
+            for (int what = 0; what <= 2; what++) {
+                told.append(' ').append(x.ofEntry(entry, what));
+            }
         }
-        told.append(x.wouldLeak(20)).append(' ').append(x.isSound() ? 1 : 0);
-        long d = 58281;
-        for (String value : told.toString().split(" ")) {
-            d = d * 31 + Long.parseLong(value);
-        }
-        return d;
+        told.append(' ').append(x.wouldLeak(20)).append(' ').append(x.isSound() ? 1 : 0);
     }
 }
