@@ -831,13 +831,13 @@ final class PromisesEdgesTest {
         }
         Scrubward y = new Scrubward();
         y.pass(20);
-        y.ray(0, 1);
-        y.weak(0, 0, 5);
+        y.ray(127, 1);
+        y.weak(127, 0, 5);
         y.run(10, 20, 0, false, false);
         CHECKS.due("refreshed at 16, not at 20, which is a multiple since then", y.wouldLeak(1), 1);
         y.run(7, 20, 0, false, false);
         CHECKS.due("leaks at 21, ahead of the refresh at 21", y.wouldLeak(1), 1);
-        y.read(0);
+        y.read(127);
         CHECKS.due("opened at 20, refreshed at 21, over at 26", y.wouldLeak(5), 0);
         CHECKS.due("over at 26", y.wouldLeak(6), 1);
     }

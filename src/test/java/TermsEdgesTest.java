@@ -701,11 +701,18 @@ final class TermsEdgesTest {
         CHECKS.due("there is no line below 0", x.board(16), 2);
         CHECKS.due("the line 1", x.ofWord(64 + 8 + 5, 0), 1 << 128 % 13);
         CHECKS.due("not the last of the other bank", x.ofLine(0, 9, 4), 0);
+        x.hammer(1, 1, 20);
+        CHECKS.due("the line 1 has two, of which one is the line 0", x.board(16), 6);
+        CHECKS.due("the line 0", x.ofWord(64 + 211 % 8, 0), 1 << 116 % 13);
         Scrubward y = new Scrubward();
         y.hammer(0, 7, 20);
         CHECKS.due("the smaller one first", y.ofWord(48 + 5, 0), 1 << 128 % 13);
         CHECKS.due("then the spare, though it is unused", y.ofLine(0, 8, 4), 1);
         Scrubward z = new Scrubward();
+        z.spare(1, 4);
+        z.hammer(1, 4, 20);
+        CHECKS.due("the line 8 has two, of which one is the line 9", z.ofLine(1, 9, 4), 1);
+        z = new Scrubward();
         z.spare(0, 4);
         z.spare(0, 4);
         z.hammer(0, 4, 20);
